@@ -706,7 +706,7 @@ public final class RiddlePost {
             length++;
         }
 
-        /** Answers the place of the first error, or NONE. */
+        // The acts are kept while the first error is looked for: so one reading tells both.
         int readActs() {
             acts = 0;
             int sign = NONE;

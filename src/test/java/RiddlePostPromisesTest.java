@@ -719,7 +719,7 @@ public final class RiddlePostPromisesTest {
         }
         for (String wrong : new String[] {"x", "0", ",", "-", "?x", "?,", "??", "?+", "?-", "+0", "+,", "++", "+?",
             "?00", "?01", "?36", "?39", "?40", "?99", "?100", "?350", "+100", "+990", "+9x", "?3x", "?0,,", "?0,0",
-            "?0,x", "?0?", "+1+", "+10?", "?/", "?:", "+/", "+:", "+1/", "+1:", "?1/", "?1:", "?5 ".trim() + "~"}) {
+            "?0,x", "?0?", "+1+", "+10?", "?/", "?:", "+/", "+:", "+1/", "+1:", "?1/", "?1:", "?5~"}) {
             error(wrong, wrong.length() - 1);
         }
         error("x?0", 0);
@@ -847,6 +847,12 @@ public final class RiddlePostPromisesTest {
         undone("setAnswer", post, () -> post.setAnswer(5, 4, 4));
         undone("setReference", post, () -> post.setReference(5, 4, 4));
         undone("solve", post, () -> post.solve(20));
+        undone("a hit", post, () -> {
+            post.solve(20);
+            post.solve(20);
+            CHECK.same("undo the hit", post.undo(), 1);
+            CHECK.same("no hit any more", post.hits(), 0);
+        });
         undone("pass", post, () -> post.pass(20));
         undone("pass with a memory", post, () -> {
             post.solve(20);
