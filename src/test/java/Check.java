@@ -2,6 +2,12 @@
 final class Check {
     private int wrong;
     private int made;
+    private String place = "";
+
+    /** Names what is tested from here on; "" for nothing. */
+    void within(String newPlace) {
+        place = newPlace;
+    }
 
     void same(String call, long got, long due) {
         made++;
@@ -46,6 +52,16 @@ final class Check {
         complain(call, got, due.getName());
     }
 
+    /** The call throws nothing. */
+    void passes(String call, Runnable body) {
+        made++;
+        try {
+            body.run();
+        } catch (RuntimeException e) {
+            complain(call, e.getClass().getName(), "nothing thrown");
+        }
+    }
+
     /** Prints how it went and ends the program with exit code 1 if an answer was wrong. */
     void end(String test) {
         System.out.println(test + ": " + made + " checks, " + wrong + " wrong");
@@ -57,7 +73,8 @@ final class Check {
     private void complain(String call, String got, String due) {
         wrong++;
         if (wrong <= 40) {
-            System.out.println(call + " answered " + got + ", due is " + due);
+            String where = place.isEmpty() ? "" : place + ": ";
+            System.out.println(where + call + " answered " + got + ", due is " + due);
         }
     }
 }

@@ -909,8 +909,9 @@ public final class RiddlePostPromisesTest {
         circle.setReference(3, 4, 9);
         circle.setReference(4, 3, 9);
         circle.solve(3);
-        CHECK.same("digest with TOO_LONG", circle.digest(), digestByHand(circle));
-        CHECK.same("digest is the same again", circle.digest(), digestByHand(circle));
+        long digest = circle.digest();
+        CHECK.same("digest is the same again", circle.digest(), digest);
+        CHECK.same("digest with TOO_LONG", digest, digestByHand(circle));
     }
 
     private static long digestByHand(RiddlePost post) {
